@@ -491,7 +491,7 @@ public final class PriceEdict {
             }
             int price = 0;
             for (int place = 0; place < PLACES; place++) {
-                price = price * 10 + Integer.numberOfTrailingZeros(left[place]);
+                price = price * 10 + lowestFigure(left[place]);
             }
             return price;
         }
@@ -502,9 +502,25 @@ public final class PriceEdict {
             }
             int price = 0;
             for (int place = 0; place < PLACES; place++) {
-                price = price * 10 + 31 - Integer.numberOfLeadingZeros(left[place]);
+                price = price * 10 + highestFigure(left[place]);
             }
             return price;
+        }
+
+        private static int lowestFigure(int bits) {
+            int figure = 0;
+            while (figure < DIGITS - 1 && (bits >> figure & 1) == 0) {
+                figure++;
+            }
+            return figure;
+        }
+
+        private static int highestFigure(int bits) {
+            int figure = DIGITS - 1;
+            while (figure > 0 && (bits >> figure & 1) == 0) {
+                figure--;
+            }
+            return figure;
         }
     }
 

@@ -5,9 +5,9 @@ public final class CountTest {
         dueCounts("new", x, 0, 0, 0, 0, 0, 0, 0, 0, 0);
         x.town(0);
         x.town(10);
-        x.goods(0, 1, 0, 10, 9, 0);
+        x.goods(0, 0, 0, 10, 9, 0);
         x.goods(1, 5, 0, 10, 7, 0);
-        Check.edict(x, "cap 1 5");
+        Check.edict(x, "cap 0 5");
         x.weeks(1);
         dueCounts("a WEEK", x, 7, 0, 0, 0, 1, 2, 12, 4, 0);
         x.stone(0, 1, 2, 3, 4);
@@ -29,6 +29,10 @@ public final class CountTest {
         x.days(1);
         x.strike(5);
         dueCounts("a day later", x, 8, 6, 4, 2, 1, 2, 12, 4, 0);
+        x.goods(1, 5, 0, 10, 5, 0);
+        Check.edict(x, "cap 5 5");
+        x.weeks(1);
+        dueCounts("another TOWN hides", x, 15, 6, 4, 2, 2, 2, 24, 6, 0);
         Check.due("count(9)", x.count(9), PriceEdict.NONE);
         Check.due("count(-1)", x.count(-1), PriceEdict.NONE);
         Check.due("count(lowest)", x.count(Integer.MIN_VALUE), PriceEdict.NONE);

@@ -60,6 +60,8 @@ public final class EdictTextTest {
     private static void wrongWords() {
         PriceEdict x = new PriceEdict();
         Check.dueFault(x, "caps 0 1", 0);
+        Check.dueFault(x, "dap 0 1", 0);
+        Check.dueFault(x, "cax 0 1", 0);
         Check.dueFault(x, "ca 0 1", 0);
         Check.dueFault(x, "Cap 0 1", 0);
         Check.dueFault(x, "capfree 0 1", 0);
@@ -163,7 +165,7 @@ public final class EdictTextTest {
         PriceEdict x = new PriceEdict();
         x.town(10);
         Check.edict(x, "cap 0 5");
-        Check.dueFault(x, "cap 0 9;cap 1 9;line 2 3;carriage 9;credit 9;free 0;x", 52);
+        Check.dueFault(x, "cap 0 9;cap 1 9;line 2 3;carriage 9;credit 99;free 0;x", 53);
         Check.due("no EDICT came", x.count(4), 1);
         Check.due("the former is in force", x.force(0, 1), 0);
         Check.due("the former cap", x.cap(0, 0, true, 1), 5);

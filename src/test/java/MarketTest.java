@@ -150,6 +150,9 @@ public final class MarketTest {
         goods(x, 0, 0, 10, 11, 5, 0);
         x.weeks(1);
         Check.due("carry 1, 19 miles", x.look(0, 0, 2), 5);
+        goods(x, 0, 0, 10, 10, 5, 0);
+        x.weeks(1);
+        Check.due("carry is 1 at first", x.look(0, 0, 2), 5);
         // 7 times 19 by 10, rounded down, is 13: not 7 times the tens of miles
         x.carry(7);
         goods(x, 0, 0, 10, 22, 5, 0);
@@ -206,6 +209,10 @@ public final class MarketTest {
         x.undo();
         x.weeks(1);
         dueLook("a hundred each", x, 39, 0, 60, 21, 0, 413, 1372, 30);
+        goods(x, 0, 0, 0, 1, 0, 2);
+        Check.edict(x, "line 0 0");
+        x.weeks(1);
+        dueLook("a BID of 1", x, 18, 19, 60, 23, 0, 413, 1372, 0);
     }
 
     private static void spoiling() {
@@ -230,6 +237,16 @@ public final class MarketTest {
         x.spoil(0, 0);
         x.weeks(1);
         Check.due("of another thing", x.look(0, 0, 4), 44);
+        PriceEdict y = new PriceEdict();
+        y.town(0);
+        y.spoil(0, 1);
+        goods(y, 0, 0, 0, 10, 1, 0);
+        y.weeks(1);
+        dueLook("a hundredth of one piece", y, 0, 0, 1, 0, 1);
+        y.spoil(0, 50);
+        goods(y, 0, 0, 0, 10, 1000, 0);
+        y.weeks(1);
+        dueLook("half of a thousand", y, 500, 0, 1001, 0, 501);
     }
 
     private static void goodsAnew() {
@@ -267,6 +284,8 @@ public final class MarketTest {
                 Check.due("stock of " + town + ", " + thing, x.look(town, thing, 0), 2 * (10 * town + thing));
             }
         }
+        Check.due("STOCK of all", x.count(6), 3600);
+        Check.due("HIDDEN of all", x.count(7), 0);
     }
 
     private static void lineOfTheWeek() {
@@ -317,6 +336,8 @@ public final class MarketTest {
         Check.due("no PAY", x.buys(0, 0, 0), 0);
         Check.edict(x, "cap 0 3;credit 100");
         Check.due("20 by the CAP", x.buys(0, 0, 20), 6);
+        Check.edict(x, "cap 0 1");
+        Check.due("PRICE 1", x.buys(0, 0, 20), 20);
         x.stone(0, 0, 0, 0, 0);
         Check.edict(x, "line 0 0");
         Check.due("PRICE 0", x.buys(0, 0, 0), 100);

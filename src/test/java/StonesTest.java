@@ -19,6 +19,8 @@ public final class StonesTest {
         Check.dueIllegal("stone 60 with no figure", () -> x.stone(0, 10, 0, 0, 0));
         Check.dueIndex("stone 60 of no line", () -> x.stone(30, 10, 0, 0, 0));
         Check.due("60 stay", x.count(1), 60);
+        Check.due("agree with 60", x.agree(29, 0, 0), 10);
+        Check.due("none of 60 is settled", x.count(8), 0);
         PriceEdict y = new PriceEdict();
         Check.dueIndex("line -1", () -> y.stone(-1, 0, 0, 0, 0));
         Check.dueIndex("line 30", () -> y.stone(30, 0, 0, 0, 0));
@@ -30,7 +32,8 @@ public final class StonesTest {
         }
         Check.due("none came", y.count(1), 0);
         Check.due("line 29", y.stone(29, 9, 9, 9, 9), 0);
-        Check.due("agree(29)", y.agree(29, 0, 2), 9999);
+        Check.due("least of line 29", y.agree(29, 0, 1), 9999);
+        Check.due("greatest of line 29", y.agree(29, 0, 2), 9999);
     }
 
     private static void everyPlace() {
