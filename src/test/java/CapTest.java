@@ -3,83 +3,159 @@ public final class CapTest {
     private static final int NONE = PriceEdict.NONE;
 
     public static void main(String[] args) {
-        carriageAndCredit();
-        greatestOfAll();
+        carriageForEachTenMiles();
+        creditRoundedDown();
+        carriageAheadOfCredit();
+        greatestCap();
+        noCap();
         freeTowns();
-        lines();
+        greatestThatAgrees();
+        noneAgrees();
+        capOfNothing();
+        lineOnTheDayAskedFor();
         byTheEdictHeard();
-        judging();
-        wrongCalls();
+        lawfulOrAbove();
+        withoutACap();
+        priceBelowNothing();
+        noSuchTownOrThing();
         Check.end();
     }
 
-    private static void carriageAndCredit() {
+    private static void dueCaps(String text, int miles, int plain, int onCredit) {
         PriceEdict x = new PriceEdict();
-        x.town(0);
-        x.town(9);
-        x.town(19);
-        x.town(105);
-        Check.edict(x, "cap 3 101;carriage 7;credit 33");
-        int[] plain = {101, 101, 108, 171};
-        int[] onCredit = {134, 134, 143, 227};
-        for (int town = 0; town < 4; town++) {
-            Check.due("cap in " + town, x.cap(town, 3, false, 10), plain[town]);
-            Check.due("cap on credit in " + town, x.cap(town, 3, true, 10), onCredit[town]);
-            Check.due("no cap in " + town, x.cap(town, 2, true, 10), NONE);
-        }
-        Check.edict(x, "cap 3 101");
-        Check.due("no carriage", x.cap(3, 3, false, 10), 101);
-        Check.due("no credit", x.cap(3, 3, true, 10), 101);
+        x.town(miles);
+        Check.edict(x, text);
+        int day = miles / 10;
+        Check.due("'" + text + "' at " + miles, x.cap(0, 0, false, day), plain);
+        Check.due("'" + text + "' at " + miles + " on credit", x.cap(0, 0, true, day), onCredit);
     }
 
-    private static void greatestOfAll() {
+    private static void carriageForEachTenMiles() {
+        Check.sentence("by which a cap is more for each 10 miles that a TOWN has, rounded down");
+        dueCaps("cap 0 100;carriage 7", 0, 100, 100);
+        dueCaps("cap 0 100;carriage 7", 9, 100, 100);
+        dueCaps("cap 0 100;carriage 7", 10, 107, 107);
+        dueCaps("cap 0 100;carriage 7", 19, 107, 107);
+        dueCaps("cap 0 100;carriage 7", 20, 114, 114);
+        dueCaps("cap 0 100;carriage 7", 1999, 1493, 1493);
+        dueCaps("cap 0 100;carriage 7", 2000, 1500, 1500);
+        dueCaps("cap 0 100;carriage 1", 105, 110, 110);
+        dueCaps("cap 0 100;carriage 99", 15, 199, 199);
+        dueCaps("cap 0 100;carriage 0", 2000, 100, 100);
+    }
+
+    private static void creditRoundedDown() {
+        Check.sentence("hundredths by which a cap on credit is more, rounded down");
+        dueCaps("cap 0 99;credit 1", 0, 99, 99);
+        dueCaps("cap 0 100;credit 1", 0, 100, 101);
+        dueCaps("cap 0 199;credit 1", 0, 199, 200);
+        dueCaps("cap 0 1;credit 99", 0, 1, 1);
+        dueCaps("cap 0 1;credit 100", 0, 1, 2);
+        dueCaps("cap 0 101;credit 33", 0, 101, 134);
+        dueCaps("cap 0 9999;credit 99", 0, 9999, 19898);
+        dueCaps("cap 0 9999;credit 0", 0, 9999, 9999);
+    }
+
+    private static void carriageAheadOfCredit() {
+        Check.sentence("first with the carriage (added), then, on credit, with the hundredths of that");
+        dueCaps("cap 0 101;carriage 7;credit 33", 105, 171, 227);
+        dueCaps("cap 0 50;carriage 50;credit 1", 10, 100, 101);
+        dueCaps("credit 100;carriage 3;cap 0 1", 10, 4, 8);
+    }
+
+    private static void greatestCap() {
+        Check.sentence("first with the carriage (added), then, on credit, with the hundredths of that");
+        dueCaps("cap 0 9999;carriage 99;credit 100", 2000, 29799, 59598);
+        dueCaps("line 0 0;carriage 99;credit 100", 2000, 29799, 59598);
+    }
+
+    private static void noCap() {
+        Check.sentence("none without one, or in a free TOWN");
         PriceEdict x = new PriceEdict();
-        x.town(2000);
-        Check.edict(x, "cap 0 9999;carriage 99;credit 100");
-        Check.due("cap", x.cap(0, 0, false, 200), 29799);
-        Check.due("on credit", x.cap(0, 0, true, 200), 59598);
+        x.town(10);
+        Check.due("no EDICT", x.cap(0, 0, false, 1), NONE);
+        Check.edict(x, "cap 1 5;carriage 9;credit 9");
+        Check.due("none of the THING", x.cap(0, 0, true, 1), NONE);
+        Check.due("not heard yet", x.cap(0, 1, true, 0), NONE);
+        Check.due("heard", x.cap(0, 1, true, 1), 15);
+        x.undo();
+        Check.due("undone", x.cap(0, 1, true, 1), NONE);
     }
 
     private static void freeTowns() {
+        Check.sentence("none without one, or in a free TOWN");
         PriceEdict x = new PriceEdict();
-        Check.edict(x, "cap 0 5;free 0;free 7");
+        Check.edict(x, "cap 0 5;line 1 2;free 0;free 7");
         for (int town = 0; town < 8; town++) {
+            boolean free = town == 0 || town == 7;
             x.town(0);
-            Check.due("cap in " + town, x.cap(town, 0, false, 0), town == 0 || town == 7 ? NONE : 5);
+            Check.due("cap in " + town, x.cap(town, 0, false, 0), free ? NONE : 5);
+            Check.due("cap by a LINE in " + town, x.cap(town, 1, true, 0), free ? NONE : 9999);
+            Check.due("judge in " + town, x.judge(town, 0, 6, false, 0), free ? 0 : 1);
         }
         Check.due("in force in a free TOWN too", x.force(7, 0), 0);
         Check.edict(x, "cap 0 5");
         Check.due("free no more", x.cap(7, 0, false, 0), 5);
     }
 
-    private static void lines() {
+    private static void greatestThatAgrees() {
+        Check.sentence("its cap is the greatest price that AGREES on the day that is asked for, or 9999 if none does");
         PriceEdict x = new PriceEdict();
         x.town(20);
         Check.edict(x, "line 1 29;carriage 1;credit 50");
         Check.due("no STONES", x.cap(0, 1, false, 2), 10001);
-        x.days(5);
-        x.stone(29, 0, 0, 1, -1);
-        Check.due("greatest", x.cap(0, 1, false, 5), 21);
-        Check.due("on credit", x.cap(0, 1, true, 5), 31);
-        Check.due("a day ahead of the STONE", x.cap(0, 1, false, 4), 10001);
-        x.stone(29, 0, 0, 2, -1);
-        Check.due("none agrees", x.cap(0, 1, false, 5), 10001);
-        x.strike(1);
+        x.stone(28, 0, 0, 0, 0);
+        Check.due("of another LINE", x.cap(0, 1, false, 2), 10001);
+        x.stone(29, 0, 0, 1, NONE);
+        Check.due("greatest", x.cap(0, 1, false, 2), 21);
+        Check.due("on credit", x.cap(0, 1, true, 2), 31);
         x.habit(1, 0);
-        Check.due("struck out, with a habit", x.cap(0, 1, false, 5), 1121);
-        x.stone(29, 0, 0, 0, 0);
-        x.stone(29, 1, -1, -1, 0);
-        x.stone(29, 0, -1, -1, 0);
-        Check.due("every place misread", x.cap(0, 1, false, 5), 1113);
-        PriceEdict y = new PriceEdict();
-        y.town(0);
-        y.stone(0, 0, 0, 0, 0);
-        Check.edict(y, "line 0 0");
-        Check.due("a price of 0 is a cap", y.cap(0, 0, true, 0), 0);
-        Check.due("above it", y.judge(0, 0, 1, true, 0), 1);
+        Check.due("with a HABIT", x.cap(0, 1, false, 2), 1121);
+    }
+
+    private static void noneAgrees() {
+        Check.sentence("or 9999 if none does");
+        PriceEdict x = new PriceEdict();
+        x.town(0);
+        Check.edict(x, "line 5 0");
+        x.stone(0, 0, 0, 0, 1);
+        Check.due("one does", x.cap(0, 5, false, 0), 1);
+        x.stone(0, 0, 0, 0, 2);
+        Check.due("none does", x.cap(0, 5, false, 0), 9999);
+        Check.due("9999 is lawful", x.judge(0, 5, 9999, false, 0), 0);
+        Check.due("10000 is above", x.judge(0, 5, 10000, false, 0), 1);
+    }
+
+    private static void capOfNothing() {
+        Check.sentence("its cap is the greatest price that AGREES");
+        PriceEdict x = new PriceEdict();
+        x.town(0);
+        x.stone(0, 0, 0, 0, 0);
+        Check.edict(x, "line 0 0;credit 100");
+        Check.due("a price of 0 is a cap", x.cap(0, 0, false, 0), 0);
+        Check.due("on credit too", x.cap(0, 0, true, 0), 0);
+        Check.due("0 is lawful", x.judge(0, 0, 0, true, 0), 0);
+        Check.due("1 is above", x.judge(0, 0, 1, true, 0), 1);
+    }
+
+    private static void lineOnTheDayAskedFor() {
+        Check.sentence("on the day that is asked for");
+        PriceEdict x = new PriceEdict();
+        x.town(0);
+        Check.edict(x, "line 0 0");
+        x.days(3);
+        x.stone(0, 0, 0, 0, 5);
+        x.days(3);
+        x.strike(0);
+        int[] want = {9999, 9999, 9999, 5, 5, 5, 9999, 9999};
+        for (int day = 0; day < want.length; day++) {
+            Check.due("on " + day, x.cap(0, 0, false, day), want[day]);
+            Check.due("a sale for 6 on " + day, x.judge(0, 0, 6, false, day), want[day] == 5 ? 1 : 0);
+        }
     }
 
     private static void byTheEdictHeard() {
+        Check.sentence("by the EDICT in force there: as told there");
         PriceEdict x = new PriceEdict();
         x.town(0);
         x.town(50);
@@ -94,36 +170,63 @@ public final class CapTest {
             Check.due("near on " + day, x.cap(0, 0, false, day), near[day]);
             Check.due("far on " + day, x.cap(1, 0, false, day), far[day]);
         }
-        Check.due("ahead of all", x.cap(0, 0, false, -1), NONE);
+        Check.due("the first of all days", x.cap(0, 0, false, Integer.MIN_VALUE), NONE);
+        Check.due("the last of all days", x.cap(1, 0, false, Integer.MAX_VALUE), NONE);
     }
 
-    private static void judging() {
+    private static void lawfulOrAbove() {
+        Check.sentence("A sale in a TOWN on a day of a THING for a price, on credit or not, is 0 lawful, or 1 above the CAP.");
+        PriceEdict x = new PriceEdict();
+        x.town(10);
+        Check.edict(x, "cap 0 10;carriage 2;credit 50");
+        Check.due("below", x.judge(0, 0, 11, false, 1), 0);
+        Check.due("the CAP", x.judge(0, 0, 12, false, 1), 0);
+        Check.due("above", x.judge(0, 0, 13, false, 1), 1);
+        Check.due("the CAP on credit", x.judge(0, 0, 18, true, 1), 0);
+        Check.due("above on credit", x.judge(0, 0, 19, true, 1), 1);
+        Check.due("for nothing", x.judge(0, 0, 0, false, 1), 0);
+        Check.due("for the highest number", x.judge(0, 0, Integer.MAX_VALUE, true, 1), 1);
+    }
+
+    private static void withoutACap() {
+        Check.sentence("is 0 lawful, or 1 above the CAP");
         PriceEdict x = new PriceEdict();
         x.town(10);
         Check.due("without an EDICT", x.judge(0, 0, Integer.MAX_VALUE, false, 1), 0);
-        Check.edict(x, "cap 0 10;carriage 2;credit 50");
-        Check.due("the cap", x.judge(0, 0, 12, false, 1), 0);
-        Check.due("above", x.judge(0, 0, 13, false, 1), 1);
-        Check.due("the cap on credit", x.judge(0, 0, 18, true, 1), 0);
-        Check.due("above on credit", x.judge(0, 0, 19, true, 1), 1);
-        Check.due("nothing", x.judge(0, 0, 0, false, 1), 0);
-        Check.due("far above", x.judge(0, 0, Integer.MAX_VALUE, true, 1), 1);
-        Check.due("not heard", x.judge(0, 0, 13, false, 0), 0);
-        Check.due("no cap", x.judge(0, 1, 13, false, 1), 0);
+        Check.due("for nothing", x.judge(0, 0, 0, false, 1), 0);
+        Check.edict(x, "cap 0 10");
+        Check.due("not heard yet", x.judge(0, 0, 11, false, 0), 0);
+        Check.due("heard", x.judge(0, 0, 11, false, 1), 1);
+        Check.due("of another THING", x.judge(0, 1, 11, false, 1), 0);
+        x.undo();
+        Check.due("undone", x.judge(0, 0, 11, false, 1), 0);
     }
 
-    private static void wrongCalls() {
+    private static void priceBelowNothing() {
+        Check.sentence("IllegalArgumentException: price is below 0.");
+        PriceEdict x = new PriceEdict();
+        x.town(0);
+        Check.dueIllegal("price -1", () -> x.judge(0, 0, -1, false, 0));
+        Check.dueIllegal("the lowest number", () -> x.judge(0, 5, Integer.MIN_VALUE, true, 0));
+        Check.due("price 0", x.judge(0, 0, 0, false, 0), 0);
+        Check.dueIndex("in no TOWN", () -> x.judge(1, 0, -1, false, 0));
+        Check.dueIndex("of no THING", () -> x.judge(0, 6, -1, false, 0));
+    }
+
+    private static void noSuchTownOrThing() {
+        Check.sentence("IndexOutOfBoundsException: there is no such LINE, STONE, THING, TOWN, EDICT.");
         PriceEdict x = new PriceEdict();
         Check.dueIndex("cap without TOWNS", () -> x.cap(0, 0, false, 0));
+        Check.dueIndex("judge without TOWNS", () -> x.judge(0, 0, 0, false, 0));
         x.town(0);
-        for (int n : new int[] {-1, 6, 7, 8, Integer.MIN_VALUE, Integer.MAX_VALUE}) {
+        for (int n : new int[] {Integer.MIN_VALUE, -1, 6, 7, 8, Integer.MAX_VALUE}) {
             Check.dueIndex("cap in " + n, () -> x.cap(n, 0, false, 0));
             Check.dueIndex("cap of " + n, () -> x.cap(0, n, true, 0));
-            Check.dueIndex("judge in " + n, () -> x.judge(n, 0, -1, false, 0));
-            Check.dueIndex("judge of " + n, () -> x.judge(0, n, -1, true, 0));
+            Check.dueIndex("judge in " + n, () -> x.judge(n, 0, 0, false, 0));
+            Check.dueIndex("judge of " + n, () -> x.judge(0, n, 0, true, 0));
         }
-        Check.dueIndex("cap in 1", () -> x.cap(1, 0, false, 0));
-        Check.dueIllegal("judge of -1", () -> x.judge(0, 0, -1, false, 0));
-        Check.dueIllegal("judge of the lowest", () -> x.judge(0, 5, Integer.MIN_VALUE, true, 0));
+        Check.dueIndex("cap in 1 of one", () -> x.cap(1, 0, false, 0));
+        Check.dueIndex("judge in 1 of one", () -> x.judge(1, 0, 0, false, 0));
+        Check.due("THING 5", x.cap(0, 5, false, 0), NONE);
     }
 }

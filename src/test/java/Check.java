@@ -1,21 +1,52 @@
+import java.io.IOException;
+import java.nio.file.Files;
+import java.nio.file.Path;
+
 /** What the tests share: answers that are due, exceptions that are due, and texts for the TAPE. */
 final class Check {
-    /** A call that may throw. */
-    interface Call {
-        long answer();
-    }
+    private static final Path DOCUMENT = Path.of("..", "shared", "DOC.md");
 
     private static int wrong = 0;
     private static int asked = 0;
+    private static String sentence = "";
+    private static String document = null;
 
     private Check() {
+    }
+
+    /**
+     * The sentence of the document that is tested from here on. That it stands there word for word
+     * is looked at too, so that no test outlives the sentence for which it was written.
+     */
+    static void sentence(String words) {
+        sentence = words;
+        asked++;
+        if (!document().isEmpty() && !document().contains(words)) {
+            fail("the document has no such sentence");
+        }
+    }
+
+    private static String document() {
+        if (document == null) {
+            document = "";
+            try {
+                document = Files.exists(DOCUMENT) ? Files.readString(DOCUMENT).replaceAll("\\s+", " ") : "";
+            } catch (IOException e) {
+                fail("the document cannot be read");
+            }
+        }
+        return document;
+    }
+
+    private static void fail(String how) {
+        wrong++;
+        System.out.println(how + (sentence.isEmpty() ? "" : " [" + sentence + "]"));
     }
 
     static void due(String what, long got, long want) {
         asked++;
         if (got != want) {
-            wrong++;
-            System.out.println(what + " answered " + got + ", due is " + want);
+            fail(what + " answered " + got + ", due is " + want);
         }
     }
 
@@ -23,35 +54,41 @@ final class Check {
         due(what, got ? 1 : 0, want ? 1 : 0);
     }
 
-    /** The very class is asked for: what the machine throws by itself is often a class below it. */
-    static void dueThrow(String what, Class<? extends RuntimeException> want, Call call) {
+    static void due(String what, String got, String want) {
         asked++;
-        String got;
+        if (!got.equals(want)) {
+            fail(what + ": " + got + ", due is " + want);
+        }
+    }
+
+    /** The very class is asked for: what the machine throws by itself is often a class below it. */
+    static void dueThrow(String what, Class<? extends RuntimeException> want, Runnable call) {
+        asked++;
+        String got = "threw nothing";
         try {
-            got = "answered " + call.answer();
+            call.run();
         } catch (RuntimeException e) {
             if (e.getClass() == want) {
                 return;
             }
             got = "threw " + e.getClass().getName();
         }
-        wrong++;
-        System.out.println(what + " " + got + ", due is " + want.getName());
+        fail(what + " " + got + ", due is " + want.getName());
     }
 
-    static void dueIndex(String what, Call call) {
+    static void dueIndex(String what, Runnable call) {
         dueThrow(what, IndexOutOfBoundsException.class, call);
     }
 
-    static void dueIllegal(String what, Call call) {
+    static void dueIllegal(String what, Runnable call) {
         dueThrow(what, IllegalArgumentException.class, call);
     }
 
-    static void dueUnsupported(String what, Call call) {
+    static void dueUnsupported(String what, Runnable call) {
         dueThrow(what, UnsupportedOperationException.class, call);
     }
 
-    static void dueNoElement(String what, Call call) {
+    static void dueNoElement(String what, Runnable call) {
         dueThrow(what, java.util.NoSuchElementException.class, call);
     }
 
@@ -66,7 +103,8 @@ final class Check {
         }
     }
 
-    private static int word(String text, int at) {
+    /** Four signs of a text as one number; 0 behind its end. */
+    static int word(String text, int at) {
         int word = 0;
         for (int i = at; i < at + 4; i++) {
             word = word << 8 | (i < text.length() ? text.charAt(i) : 0);

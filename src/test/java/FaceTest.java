@@ -40,6 +40,8 @@ public final class FaceTest {
         methods();
         otherMembers();
         newObject();
+        objectsByThemselves();
+        lastCall();
         Check.end();
     }
 
@@ -92,6 +94,7 @@ public final class FaceTest {
     }
 
     private static void newObject() {
+        Check.sentence("No STONES, no EDICT, no TOWNS; TODAY is 0.");
         PriceEdict x = new PriceEdict();
         for (int what = 0; what <= 8; what++) {
             Check.due("new: count(" + what + ")", x.count(what), 0);
@@ -101,12 +104,34 @@ public final class FaceTest {
         Check.due("new: end(1)", x.end(1), false);
         Check.due("new: end(0)", x.end(0), true);
         Check.due("new: agree(0, 0, 0)", x.agree(0, 0, 0), 10000);
-        Check.dueIndex("new: strike(0)", () -> x.strike(0) ? 1 : 0);
+        Check.dueIndex("new: strike(0)", () -> x.strike(0));
         Check.dueIndex("new: force(0, 0)", () -> x.force(0, 0));
-        PriceEdict other = new PriceEdict();
-        other.town(10);
-        other.stone(0, 1, 1, 1, 1);
-        Check.due("another object's TOWN", x.count(5), 0);
-        Check.due("another object's STONE", x.count(1), 0);
+    }
+
+    private static void objectsByThemselves() {
+        Check.sentence("No STONES, no EDICT, no TOWNS; TODAY is 0.");
+        PriceEdict early = new PriceEdict();
+        Whole.answers(Whole.full());
+        Check.due("made behind a full one", Whole.answers(new PriceEdict()), Whole.answers(early));
+        PriceEdict busy = Whole.busy();
+        Whole.answers(new PriceEdict());
+        Check.due("a busy one beside others", Whole.answers(busy), Whole.answers(Whole.busy()));
+    }
+
+    private static void lastCall() {
+        Check.sentence("An object is used for at most 512 calls after it has been made");
+        PriceEdict x = new PriceEdict();
+        for (int call = 1; call <= 501; call++) {
+            x.days(call % 11);
+        }
+        int today = x.count(0);
+        x.town(20);
+        x.goods(0, 5, 1, 9, 5, 1);
+        x.stone(3, 1, 2, 3, 4);
+        Check.tape(x, "cap 5 7");
+        x.edict();
+        x.weeks(2);
+        Check.due("call 511", x.look(0, 5, 1), 5);
+        Check.due("call 512", x.count(0), today + 14);
     }
 }

@@ -2,8 +2,14 @@ import java.util.Random;
 
 /** Promises 1 to 22: runs of calls by chance (always the same ones) against the Model. */
 public final class ModelTest {
-    private static final int RUNS = 300;
-    private static final int CALLS = 512;
+    /** A call that may throw. */
+    private interface Call {
+        long answer();
+    }
+
+    private static final int RUNS = 500;
+    // The document promises nothing of an object behind its 512th call; a step makes at most 25.
+    private static final int CALLS = 512 - 25;
     private static final int[] EDGES = {Integer.MIN_VALUE, -2, -1, 10, 101, 10000, Integer.MAX_VALUE};
     private static final String[] SPOILERS = {"x", ";", "12345", " ", "cap", "-", "10000", "9", "\u00ff"};
 
@@ -13,6 +19,7 @@ public final class ModelTest {
     // Few lines and figures in some runs, so that stones meet; many in others.
     private final int lines;
     private final int figures;
+    private int calls = 0;
 
     private ModelTest(int seed) {
         chance = new Random(seed);
@@ -23,14 +30,15 @@ public final class ModelTest {
     public static void main(String[] args) {
         for (int seed = 0; seed < RUNS; seed++) {
             ModelTest run = new ModelTest(seed);
-            for (int call = 0; call < CALLS; call++) {
-                run.step("run " + seed + ", call " + call);
+            // Some steps make no call by chance: the bound is far above what a run needs.
+            for (int step = 0; step < 10000 && run.calls < CALLS; step++) {
+                run.step("run " + seed + ", step " + step);
             }
         }
         Check.end();
     }
 
-    private static String outcome(Check.Call call) {
+    private static String outcome(Call call) {
         try {
             return "answers " + call.answer();
         } catch (RuntimeException e) {
@@ -38,7 +46,8 @@ public final class ModelTest {
         }
     }
 
-    private static void same(String what, Check.Call got, Check.Call want) {
+    private void same(String what, Call got, Call want) {
+        calls++;
         String is = outcome(got);
         String due = outcome(want);
         Check.due(what + ": " + is + ", the model " + due, is.equals(due), true);
@@ -121,6 +130,7 @@ public final class ModelTest {
             String text = text();
             if (chance.nextInt(10) != 0) {
                 Check.tape(x, text);
+                calls += 2 + (text.length() + 19) / 20;
                 putOnModel(text);
             }
             same(at + " edict of '" + text + "'", x::edict, model::edict);
