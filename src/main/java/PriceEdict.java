@@ -78,13 +78,7 @@ public final class PriceEdict {
         if (stones.size >= MOST_STONES) {
             throw new UnsupportedOperationException("there are 60 STONES");
         }
-        int number = stones.size;
-        stones.lay(line, today);
-        stones.carve(number, 0, a);
-        stones.carve(number, 1, b);
-        stones.carve(number, 2, c);
-        stones.carve(number, 3, d);
-        return number;
+        return stones.lay(line, today, a, b, c, d);
     }
 
     public boolean strike(int stone) throws IndexOutOfBoundsException {
@@ -318,7 +312,7 @@ public final class PriceEdict {
     /** CAP, or NONE. */
     private int highest(int town, int thing, boolean credit, int day) {
         int number = inForce(town, day);
-        if (number == NONE) {
+        if (number < 0 || number >= decreeCount) {
             return NONE;
         }
         Decree decree = decrees[number];
@@ -411,24 +405,22 @@ public final class PriceEdict {
             }
         }
 
-        /** One more STONE, whose figures are still WORN. */
-        void lay(int line, int day) {
+        /** One more STONE: its number; NONE if there is no room. */
+        int lay(int line, int day, int a, int b, int c, int d) {
             if (size >= MOST_STONES) {
-                return;
+                return NONE;
             }
-            lines[size] = line;
-            found[size] = day;
-            struck[size] = NONE;
-            for (int place = 0; place < PLACES; place++) {
-                figures[size * PLACES + place] = NONE;
-            }
+            int number = size;
+            lines[number] = line;
+            found[number] = day;
+            struck[number] = NONE;
+            int at = number * PLACES;
+            figures[at] = a;
+            figures[at + 1] = b;
+            figures[at + 2] = c;
+            figures[at + 3] = d;
             size++;
-        }
-
-        void carve(int stone, int place, int figure) {
-            if (stone >= 0 && stone < size && place >= 0 && place < PLACES) {
-                figures[stone * PLACES + place] = figure;
-            }
+            return number;
         }
 
         /** Whether it was not struck out; the first day on which it was is kept. */
