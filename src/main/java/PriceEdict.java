@@ -116,7 +116,7 @@ public final class PriceEdict {
     // ---- THE EDICT, its UNDOING, and what a TOWN HEARS
 
     public int edict() throws IllegalArgumentException, UnsupportedOperationException {
-        wrongByte = tape.readInto(decrees[decreeCount]);
+        wrongByte = tape.readInto(decrees[Math.min(decreeCount, MOST_EDICTS)]);
         tape.length = 0;
         if (wrongByte != NONE) {
             throw new IllegalArgumentException("the text is wrong");

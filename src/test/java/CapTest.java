@@ -14,8 +14,10 @@ public final class CapTest {
         capOfNothing();
         lineOnTheDayAskedFor();
         byTheEdictHeard();
+        capOrNone();
         lawfulOrAbove();
         withoutACap();
+        judgedByTheCap();
         priceBelowNothing();
         noSuchTownOrThing();
         Check.end();
@@ -174,6 +176,46 @@ public final class CapTest {
         Check.due("the last of all days", x.cap(1, 0, false, Integer.MAX_VALUE), NONE);
     }
 
+    /** Three TOWNS, the last one free; EDICT 0 from day 0 on, EDICT 1 from day 5 on, undone on day 9. */
+    private static PriceEdict threeTowns() {
+        PriceEdict x = new PriceEdict();
+        x.town(0);
+        x.town(25);
+        x.town(0);
+        x.stone(4, 0, 0, 2, NONE);
+        Check.edict(x, "cap 0 10;line 1 4;carriage 3;credit 50;free 2");
+        x.days(5);
+        Check.edict(x, "line 0 4;credit 100;free 2");
+        x.days(4);
+        x.undo();
+        return x;
+    }
+
+    private static final int[][] CAPS_ON_DAYS = {
+        // TOWN, THING, day, CAP, CAP on credit
+        {0, 0, 0, 10, 15}, {0, 1, 0, 29, 43}, {0, 2, 0, NONE, NONE}, {0, 0, 4, 10, 15}, {0, 0, 5, 29, 58},
+        {0, 1, 5, NONE, NONE}, {0, 0, 8, 29, 58}, {0, 0, 9, NONE, NONE}, {0, 0, -1, NONE, NONE},
+        {1, 0, 1, NONE, NONE}, {1, 0, 2, 16, 24}, {1, 1, 2, 35, 52}, {1, 1, 6, 35, 52}, {1, 1, 7, NONE, NONE},
+        {1, 0, 7, 29, 58}, {1, 0, 10, 29, 58}, {1, 0, 11, NONE, NONE},
+        {2, 0, 0, NONE, NONE}, {2, 1, 4, NONE, NONE}, {2, 0, 5, NONE, NONE}, {2, 0, 9, NONE, NONE},
+    };
+
+    private static void capOrNone() {
+        Check.sentence("CAP of a THING in a TOWN on a day, on credit or not: by the EDICT in force there");
+        PriceEdict x = threeTowns();
+        for (int[] row : CAPS_ON_DAYS) {
+            String where = "in " + row[0] + " of " + row[1] + " on " + row[2];
+            Check.due("cap " + where, x.cap(row[0], row[1], false, row[2]), row[3]);
+            Check.due("on credit " + where, x.cap(row[0], row[1], true, row[2]), row[4]);
+        }
+        Check.sentence("CAP; NONE.");
+        for (int town = 0; town < 3; town++) {
+            for (int thing = 0; thing < 6; thing++) {
+                Check.due("none of " + thing + " in " + town, x.cap(town, thing, true, 5000), NONE);
+            }
+        }
+    }
+
     private static void lawfulOrAbove() {
         Check.sentence("A sale in a TOWN on a day of a THING for a price, on credit or not, is 0 lawful, or 1 above the CAP.");
         PriceEdict x = new PriceEdict();
@@ -200,6 +242,20 @@ public final class CapTest {
         Check.due("of another THING", x.judge(0, 1, 11, false, 1), 0);
         x.undo();
         Check.due("undone", x.judge(0, 0, 11, false, 1), 0);
+    }
+
+    private static void judgedByTheCap() {
+        Check.sentence("A sale is judged: 0 or 1.");
+        PriceEdict x = threeTowns();
+        for (int[] row : CAPS_ON_DAYS) {
+            for (int credit = 0; credit < 2; credit++) {
+                int cap = row[3 + credit];
+                int price = cap == NONE ? 100000 : cap;
+                String where = "in " + row[0] + " of " + row[1] + " on " + row[2] + " for ";
+                Check.due(where + price, x.judge(row[0], row[1], price, credit == 1, row[2]), 0);
+                Check.due(where + (price + 1), x.judge(row[0], row[1], price + 1, credit == 1, row[2]), cap == NONE ? 0 : 1);
+            }
+        }
     }
 
     private static void priceBelowNothing() {

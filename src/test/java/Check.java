@@ -26,7 +26,8 @@ final class Check {
         }
     }
 
-    private static String document() {
+    /** The document in one line; empty if it is not there. */
+    static String document() {
         if (document == null) {
             document = "";
             try {

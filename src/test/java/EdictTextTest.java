@@ -28,6 +28,7 @@ public final class EdictTextTest {
         emptyText();
         tapeIsUsedUp();
         wrongTextsLeaveNothing();
+        numbersOfEdicts();
         twentyEdicts();
         wrongAheadOfTooMany();
         faultOfTheLatest();
@@ -59,7 +60,7 @@ public final class EdictTextTest {
     }
 
     private static void clausesAndSemicolons() {
-        Check.sentence("a text: CLAUSE { ; CLAUSE }");
+        Check.sentence("THE EDICT: a text: CLAUSE { ; CLAUSE }. CLAUSE: cap NUMBER NUMBER");
         dueRight("free 1");
         dueRight("free 1;free 2");
         dueRight("cap 0 1;line 1 2;carriage 3;credit 4;free 5");
@@ -396,6 +397,19 @@ public final class EdictTextTest {
         Check.dueFault(x, "cap 0 9;", 8);
         Check.due("undone it stays", x.force(0, 1), NONE);
         Check.due("and is not undone again", x.undo(), false);
+    }
+
+    private static void numbersOfEdicts() {
+        Check.sentence("Uses the TAPE up: an EDICT: its number. IllegalArgumentException: the text is wrong");
+        PriceEdict x = new PriceEdict();
+        Check.dueFault(x, "cap 0", 5);
+        Check.due("the first behind a wrong text", Check.edict(x, "cap 0 1"), 0);
+        Check.due("the same text again", Check.edict(x, "cap 0 1"), 1);
+        x.undo();
+        Check.dueFault(x, "cap 0 1 1", 8);
+        x.days(3);
+        Check.due("behind an UNDOING, on another day", Check.edict(x, "free 0"), 2);
+        Check.due("three of them", x.count(4), 3);
     }
 
     private static void twentyEdicts() {

@@ -8,6 +8,7 @@ public final class NewsTest {
         undoneAgain();
         untilTheNext();
         aTenthOfTheMiles();
+        heardLast();
         inPlaceOfTheOneBefore();
         severalOnOneDay();
         toldOnTheFirstDay();
@@ -35,7 +36,7 @@ public final class NewsTest {
     }
 
     private static void undone() {
-        Check.sentence("UNDOING: from TODAY on there is none");
+        Check.sentence("UNDOING: true; false, and nothing happens");
         PriceEdict x = new PriceEdict();
         x.town(0);
         tell(x);
@@ -104,7 +105,7 @@ public final class NewsTest {
         }
     }
 
-    private static void inPlaceOfTheOneBefore() {
+    private static void heardLast() {
         Check.sentence("what is in force in a TOWN on a day is what it HEARD last by then");
         PriceEdict x = new PriceEdict();
         x.town(30);
@@ -115,6 +116,21 @@ public final class NewsTest {
         for (int day = 0; day < want.length; day++) {
             Check.due("on " + day, x.force(0, day), want[day]);
         }
+    }
+
+    private static void inPlaceOfTheOneBefore() {
+        Check.sentence("are told on TODAY (0 at first, 5000 at last), each in place of the one before.");
+        PriceEdict x = new PriceEdict();
+        x.town(10);
+        x.town(10);
+        Check.edict(x, "cap 0 5;cap 1 6;carriage 9;credit 100;free 1");
+        x.days(3);
+        Check.edict(x, "cap 0 7");
+        Check.due("what both tell", x.cap(0, 0, true, 4), 7);
+        Check.due("what the one before told alone", x.cap(0, 1, true, 4), NONE);
+        Check.due("the TOWN that was free", x.cap(1, 0, true, 4), 7);
+        Check.due("the one before on its days", x.cap(0, 1, true, 3), 30);
+        Check.due("free on its days", x.cap(1, 1, true, 3), NONE);
     }
 
     private static void severalOnOneDay() {

@@ -85,10 +85,11 @@ public final class PayTest {
     }
 
     private static void payOutOfBounds() {
-        Check.sentence("IllegalArgumentException: PAY is none.");
+        Check.sentence("PAY (0 to 100000) BUYS in a TOWN of a THING");
         PriceEdict x = stocked(100, 9999);
         Check.due("0", x.buys(0, 0, 0), 0);
         Check.due("100000", x.buys(0, 0, 100000), 10);
+        Check.sentence("IllegalArgumentException: PAY is none.");
         for (int pay : new int[] {Integer.MIN_VALUE, -1, 100001, Integer.MAX_VALUE}) {
             Check.dueIllegal("PAY " + pay, () -> x.buys(0, 0, pay));
         }

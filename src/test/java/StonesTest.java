@@ -6,6 +6,7 @@ public final class StonesTest {
 
     public static void main(String[] args) {
         sixtyStones();
+        numbersOfStones();
         linesOfStones();
         figuresOfStones();
         placesOfFigures();
@@ -19,9 +20,11 @@ public final class StonesTest {
         allHabits();
         wrongHabits();
         misreadOnce();
+        wornFigures();
         pricesAtTheEnds();
         allStonesOfALine();
         noStones();
+        howMany();
         nothingAgrees();
         justOne();
         anotherWhat();
@@ -52,8 +55,24 @@ public final class StonesTest {
         Check.dueIndex("the 61st cannot be struck out", () -> x.strike(60));
     }
 
+    private static void numbersOfStones() {
+        Check.sentence("A STONE is found TODAY: its number.");
+        PriceEdict x = new PriceEdict();
+        Check.due("the first", x.stone(7, 1, 1, 1, 1), 0);
+        Check.due("of another LINE", x.stone(29, 1, 1, 1, 1), 1);
+        Check.due("one like the first", x.stone(7, 1, 1, 1, 1), 2);
+        Check.dueIllegal("one that is refused", () -> x.stone(7, 1, 1, 1, 10));
+        x.strike(2);
+        x.days(9);
+        Check.due("on another day", x.stone(7, 2, 2, 2, 2), 3);
+        dueAgree("found on that day, not ahead of it", x, 7, 8, 1, 1111, 1111, 1);
+        dueAgree("TODAY", x, 7, 9, NOTHING);
+        Check.due("its number strikes it out", x.strike(3), true);
+        dueAgree("as ahead of it", x, 7, 9, 1, 1111, 1111, 1);
+    }
+
     private static void linesOfStones() {
-        Check.sentence("each has a LINE (0 to 29)");
+        Check.sentence("each has a LINE (0 to 29) with four FIGURES");
         PriceEdict x = new PriceEdict();
         Check.due("line 0", x.stone(0, 1, 2, 3, 4), 0);
         Check.due("line 29", x.stone(29, 5, 6, 7, 8), 1);
@@ -128,7 +147,7 @@ public final class StonesTest {
     }
 
     private static void struckOutOnTheSameDay() {
-        Check.sentence("struck out on a later or the same day");
+        Check.sentence("found on a day, and, perhaps, struck out on a later or the same day");
         PriceEdict x = new PriceEdict();
         x.stone(5, 1, 1, 1, 1);
         Check.due("strike on day 0", x.strike(0), true);
@@ -172,7 +191,7 @@ public final class StonesTest {
     }
 
     private static void habitsBothWays() {
-        Check.sentence("pairs of unlike figures that are misread for one another");
+        Check.sentence("HABITS: pairs of unlike figures that are misread for one another");
         PriceEdict x = new PriceEdict();
         x.stone(0, 0, 0, 0, 0);
         x.stone(1, 9, 9, 9, 9);
@@ -250,6 +269,25 @@ public final class StonesTest {
         dueAgree("beside WORN ones", x, 2, 0, 300, 4000, 6990, 0);
     }
 
+    private static void wornFigures() {
+        Check.sentence("or one that is misread for it, or that of the STONE is WORN");
+        int[] prices = {10, 100, 1000, 10000};
+        for (int worn = 1; worn <= 4; worn++) {
+            PriceEdict x = new PriceEdict();
+            x.stone(0, worn > 3 ? NONE : 5, worn > 2 ? NONE : 5, worn > 1 ? NONE : 5, NONE);
+            Check.due("WORN: the last " + worn, x.agree(0, 0, 0), prices[worn - 1]);
+            x.habit(0, 9);
+            Check.due("no HABIT makes them more", x.agree(0, 0, 0), prices[worn - 1]);
+        }
+        PriceEdict y = new PriceEdict();
+        y.stone(0, NONE, 5, NONE, 5);
+        dueAgree("WORN between others", y, 0, 0, 100, 505, 9595, 0);
+        y.stone(0, 5, NONE, 5, NONE);
+        dueAgree("one STONE tells what the other has WORN", y, 0, 0, 1, 5555, 5555, 1);
+        y.stone(0, NONE, NONE, NONE, NONE);
+        dueAgree("all WORN tells nothing", y, 0, 0, 1, 5555, 5555, 1);
+    }
+
     private static void pricesAtTheEnds() {
         Check.sentence("A price (0 to 9999) AGREES with a STONE");
         PriceEdict x = new PriceEdict();
@@ -288,6 +326,32 @@ public final class StonesTest {
         dueAgree("none yet", x, 7, 0, ALL);
         x.strike(0);
         dueAgree("none any more", x, 7, 1, ALL);
+    }
+
+    private static void howMany() {
+        Check.sentence("AGREEING of a LINE on a day: what 0 how many, 1 the least, 2 the greatest");
+        PriceEdict x = new PriceEdict();
+        // Of 1 two figures may stand for it, of 4 three, of 7 four.
+        int[][] habits = {{1, 2}, {4, 3}, {4, 5}, {7, 6}, {7, 8}, {7, 9}};
+        for (int[] habit : habits) {
+            x.habit(habit[0], habit[1]);
+        }
+        x.stone(0, 0, 0, 0, 0);
+        x.stone(1, 0, 0, 0, 1);
+        x.stone(2, 0, 0, 4, 0);
+        x.stone(3, 0, 7, 0, 0);
+        x.stone(4, 1, 0, 4, 0);
+        x.stone(5, 7, 4, 1, 0);
+        x.stone(6, 7, 4, 1, NONE);
+        x.stone(7, 7, 7, 7, 7);
+        dueAgree("1 of each place", x, 0, 0, 1, 0, 0, 1);
+        dueAgree("2 of the last", x, 1, 0, 2, 1, 2, 0);
+        dueAgree("3 of the third", x, 2, 0, 3, 30, 50, 0);
+        dueAgree("4 of the second", x, 3, 0, 4, 600, 900, 0);
+        dueAgree("2 times 3", x, 4, 0, 6, 1030, 2050, 0);
+        dueAgree("4 times 3 times 2", x, 5, 0, 24, 6310, 9520, 0);
+        dueAgree("4 times 3 times 2 times 10", x, 6, 0, 240, 6310, 9529, 0);
+        dueAgree("4 of each place", x, 7, 0, 256, 6666, 9999, 0);
     }
 
     private static void nothingAgrees() {

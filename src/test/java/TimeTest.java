@@ -53,7 +53,7 @@ public final class TimeTest {
     }
 
     private static void lastWeek() {
-        Check.sentence("(a WEEK that would go beyond is none)");
+        Check.sentence("(a WEEK that would go beyond is none): TODAY.");
         PriceEdict x = on(4993);
         Check.due("to the last day", x.weeks(1), 5000);
         dueWeeks("one", x, 1);
@@ -97,7 +97,7 @@ public final class TimeTest {
     }
 
     private static void lastDay() {
-        Check.sentence("(no WEEK goes by; 5000 at most)");
+        Check.sentence("(no WEEK goes by; 5000 at most): TODAY.");
         Check.due("to 4999", on(4995).days(4), 4999);
         Check.due("to 5000", on(4995).days(5), 5000);
         Check.due("beyond", on(4995).days(6), 5000);

@@ -2,6 +2,7 @@
 public final class TownsTest {
     public static void main(String[] args) {
         eightTowns();
+        numbersOfTowns();
         milesOfTowns();
         goodsOfNoTown();
         costs();
@@ -10,6 +11,7 @@ public final class TownsTest {
         wants();
         goodsAtFirst();
         goodsAnew();
+        goodsRefused();
         goodsOfEach();
         spoilOfThings();
         spoilAtFirst();
@@ -40,6 +42,20 @@ public final class TownsTest {
         Check.due("the 8th keeps its miles", x.force(7, 6), PriceEdict.NONE);
         Check.due("all of them", x.force(7, 7), 0);
         Check.dueIllegal("a 9th with no MILES", () -> x.town(2001));
+    }
+
+    private static void numbersOfTowns() {
+        Check.sentence("A TOWN: its number.");
+        PriceEdict x = new PriceEdict();
+        Check.due("the first", x.town(40), 0);
+        Check.due("one like it", x.town(40), 1);
+        Check.dueIllegal("one that is refused", () -> x.town(-1));
+        x.days(9);
+        Check.due("on another day", x.town(0), 2);
+        x.goods(2, 0, 0, 9, 5, 0);
+        x.weeks(1);
+        Check.due("its number tells of it", x.look(2, 0, 0), 5);
+        Check.due("the others have none of it", x.look(0, 0, 0) + x.look(1, 0, 0), 0);
     }
 
     private static void milesOfTowns() {
@@ -76,7 +92,7 @@ public final class TownsTest {
     }
 
     private static void costs() {
-        Check.sentence("COST (0 to 9999");
+        Check.sentence("COST (0 to 9999: of what is brought, where it comes from)");
         PriceEdict x = with(0);
         x.goods(0, 0, 0, 0, 3, 0);
         Check.due("COST 0 at PRICE 0", behindAWeek(x, 2), 3);
@@ -162,8 +178,24 @@ public final class TownsTest {
         Check.due("the new WANT", x.look(0, 0, 3), 1);
     }
 
+    private static void goodsRefused() {
+        Check.sentence("IllegalArgumentException: a number is none.");
+        PriceEdict x = with(0);
+        x.goods(0, 0, 4, 10, 9, 2);
+        int[][] rows = {{-1, 8, 7, 6}, {10000, 8, 7, 6}, {3, -1, 7, 6}, {3, 10000, 7, 6}, {3, 8, -1, 6}, {3, 8, 1001, 6},
+            {3, 8, 7, -1}, {3, 8, 7, 1001}};
+        for (int[] row : rows) {
+            Check.dueIllegal("one of four is none", () -> x.goods(0, 0, row[0], row[1], row[2], row[3]));
+        }
+        Check.due("BID as it was", x.look(0, 0, 7), 10);
+        Check.due("SUPPLY as it was", behindAWeek(x, 2), 9);
+        Check.due("WANT as it was", x.look(0, 0, 3), 2);
+        Check.edict(x, "cap 0 3");
+        Check.due("COST as it was", behindAWeek(x, 2), 9);
+    }
+
     private static void goodsOfEach() {
-        Check.sentence("of each TOWN and THING");
+        Check.sentence("GOODS: of each TOWN and THING");
         PriceEdict x = new PriceEdict();
         for (int town = 0; town < 8; town++) {
             x.town(0);
@@ -219,7 +251,7 @@ public final class TownsTest {
     }
 
     private static void carries() {
-        Check.sentence("CARRY (0 to 99 for each 10 miles; 1 at first)");
+        Check.sentence("CARRY (0 to 99 for each 10 miles; 1 at first): what bringing a piece costs besides.");
         PriceEdict x = with(10);
         x.carry(99);
         x.goods(0, 0, 1, 99, 5, 0);

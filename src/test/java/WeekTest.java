@@ -22,6 +22,7 @@ public final class WeekTest {
         eachByItself();
         allSpoils();
         townsByThemselves();
+        eachLook();
         moneyGoesRound();
         greatestSums();
         priceToday();
@@ -333,6 +334,25 @@ public final class WeekTest {
             Check.due("WEIGHT of 5 in " + town, x.look(town, 5, 6), sold * (town == 3 ? 100 : 50));
             Check.due("nothing of 4 in " + town, x.look(town, 4, 2), 0);
         }
+    }
+
+    private static void eachLook() {
+        Check.sentence("Of a TOWN and THING what 0 STOCK, 1 HIDDEN, 2 all that was BROUGHT, 3 SOLD, 4 SPOILT");
+        PriceEdict x = with(0, 20, 100, 7);
+        x.spoil(0, 10);
+        Check.edict(x, "cap 0 15");
+        // 100 come, 50 are HIDDEN, 7 of the others are SOLD; of 43 five spoil, and of 50 five.
+        x.weeks(1);
+        dueLook("one WEEK", x, 38, 45, 100, 7, 10, 105, 525, 15);
+        Check.sentence("5 money that was paid (32 bits, going round), 6 WEIGHT that was sold, 7 PRICE on TODAY.");
+        // 138 there, 69 go to 45, 7 are SOLD; of 62 seven spoil, and of 114 twelve.
+        x.weeks(1);
+        dueLook("two WEEKS", x, 55, 102, 200, 14, 29, 210, 1050, 15);
+        x.undo();
+        dueLook("undone, ahead of the next WEEK", x, 55, 102, 200, 14, 29, 210, 1050, 20);
+        // 155 and 102 are there, 7 are SOLD; of 250 twenty-five spoil.
+        x.weeks(1);
+        dueLook("three WEEKS", x, 225, 0, 300, 21, 54, 350, 1750, 20);
     }
 
     private static void moneyGoesRound() {
